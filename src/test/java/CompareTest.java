@@ -1,9 +1,13 @@
 import java.util.Random;
 
-/** Long runs of calls, ordinary and wrong ones, each answered by NextPaths and by the Model alike. */
+/**
+ * Long runs of calls, ordinary and wrong ones, each answered by NextPaths and by the Model alike. With the readings
+ * between the steps an object gets far more than the 512 calls that the document promises: NextPaths counts no calls,
+ * so the test holds it to more than is due.
+ */
 public final class CompareTest {
     private static final int RUNS = 1500;
-    private static final int CALLS = 512;
+    private static final int STEPS = 512;
     private static final int[] WRONG = {-1, -2, 8, 20, 21, 300, 1001, 7001, Integer.MAX_VALUE, Integer.MIN_VALUE};
 
     private final Random random;
@@ -28,7 +32,7 @@ public final class CompareTest {
 
     private void play(int run) {
         int grow = 15 + random.nextInt(40);
-        for (int i = 0; i < CALLS && Check.allAsDue(); i++) {
+        for (int i = 0; i < STEPS && Check.allAsDue(); i++) {
             String at = "run " + run + ", call " + i + ": ";
             if (random.nextInt(600) == 0) {
                 Check.due(at + "clear()", x.clear(), y.clear());
