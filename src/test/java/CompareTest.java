@@ -1,13 +1,9 @@
 import java.util.Random;
 
-/**
- * Long runs of calls, ordinary and wrong ones, each answered by NextPaths and by the Model alike. With the readings
- * between the steps an object gets far more than the 512 calls that the document promises: NextPaths counts no calls,
- * so the test holds it to more than is due.
- */
+/** Runs of 512 calls, ordinary and wrong ones, each answered by NextPaths and by the Model alike. */
 public final class CompareTest {
-    private static final int RUNS = 1500;
-    private static final int STEPS = 512;
+    private static final int RUNS = 4000;
+    private static final int CALLS = 512;
     private static final int[] WRONG = {-1, -2, 8, 20, 21, 300, 1001, 7001, Integer.MAX_VALUE, Integer.MIN_VALUE};
 
     private final Random random;
@@ -15,6 +11,7 @@ public final class CompareTest {
     private final Model y = new Model();
     private final int nodes;
     private final int greatest;
+    private int calls = 0;
 
     private CompareTest(long seed) {
         random = new Random(seed);
@@ -30,15 +27,23 @@ public final class CompareTest {
         Check.end();
     }
 
+    /** What is answered after the 512th call is free. */
+    private void due(String call, int got, int want) {
+        calls++;
+        if (calls <= CALLS) {
+            Check.due(call, got, want);
+        }
+    }
+
     private void play(int run) {
         int grow = 15 + random.nextInt(40);
-        for (int i = 0; i < STEPS && Check.allAsDue(); i++) {
-            String at = "run " + run + ", call " + i + ": ";
+        while (calls < CALLS && Check.allAsDue()) {
+            String at = "run " + run + ", call " + (calls + 1) + " or one after: ";
             if (random.nextInt(600) == 0) {
-                Check.due(at + "clear()", x.clear(), y.clear());
+                due(at + "clear()", x.clear(), y.clear());
             } else if (y.of(0) < nodes) {
-                Check.due(at + "node()", x.node(), y.node());
-            } else if (i < grow) {
+                due(at + "node()", x.node(), y.node());
+            } else if (calls < grow) {
                 addArc(at);
             } else if (random.nextInt(3) == 0) {
                 alter(at);
@@ -69,7 +74,7 @@ public final class CompareTest {
         int weight = number(0, greatest);
         int second = number(0, greatest);
         String call = at + "arc(" + from + ", " + to + ", " + weight + ", " + second + ")";
-        Check.due(call, x.arc(from, to, weight, second), y.arc(from, to, weight, second));
+        due(call, x.arc(from, to, weight, second), y.arc(from, to, weight, second));
     }
 
     private void alter(String at) {
@@ -80,14 +85,14 @@ public final class CompareTest {
                 int weight = number(0, greatest);
                 int second = number(0, greatest);
                 String call = at + "change(" + arc + ", " + weight + ", " + second + ")";
-                Check.due(call, x.change(arc, weight, second), y.change(arc, weight, second));
+                due(call, x.change(arc, weight, second), y.change(arc, weight, second));
             }
             default -> {
                 boolean is = random.nextInt(4) == 0;
-                Check.due(at + "shut(" + arc + ", " + is + ")", x.shut(arc, is), y.shut(arc, is));
+                due(at + "shut(" + arc + ", " + is + ")", x.shut(arc, is), y.shut(arc, is));
             }
         }
-        compareTold(at);
+        read(at);
     }
 
     private void ask(String at) {
@@ -98,22 +103,21 @@ public final class CompareTest {
         switch (random.nextInt(7)) {
             case 0 -> {
                 int k = number(0, 299);
-                Check.due(at + "next" + ends + ", " + k + ")", x.next(a, b, k), y.next(a, b, k));
+                due(at + "next" + ends + ", " + k + ")", x.next(a, b, k), y.next(a, b, k));
             }
             case 1 -> {
                 int k = number(0, Math.max(0, y.count(a, b)));
-                Check.due(at + "next" + ends + ", " + k + ")", x.next(a, b, k), y.next(a, b, k));
+                due(at + "next" + ends + ", " + k + ")", x.next(a, b, k), y.next(a, b, k));
             }
-            case 2 -> Check.due(at + "count" + ends + ")", x.count(a, b), y.count(a, b));
+            case 2 -> due(at + "count" + ends + ")", x.count(a, b), y.count(a, b));
             case 3 -> {
                 int limit = number(0, Math.min(7000, 4 * greatest));
-                Check.due(at + "within" + ends + ", " + limit + ")", x.within(a, b, limit), y.within(a, b, limit));
+                due(at + "within" + ends + ", " + limit + ")", x.within(a, b, limit), y.within(a, b, limit));
             }
-            case 4 -> Check.due(at + "pairs" + ends + ")", x.pairs(a, b), y.pairs(a, b));
+            case 4 -> due(at + "pairs" + ends + ")", x.pairs(a, b), y.pairs(a, b));
             default -> askApart(at, a, b, by);
         }
-        compareTold(at);
-        comparePairs(at);
+        read(at);
     }
 
     private void askApart(String at, int a, int b, int by) {
@@ -123,21 +127,39 @@ public final class CompareTest {
         }
         int n = number(1, 5);
         String ends = "(" + a + ", " + b + ", ";
-        Check.due(at + "apart" + ends + n + ", " + by + ")", x.apart(a, b, n, by), y.apart(a, b, n, by));
-        Check.due(at + "most" + ends + by + ")", x.most(a, b, by), y.most(a, b, by));
+        due(at + "apart" + ends + n + ", " + by + ")", x.apart(a, b, n, by), y.apart(a, b, n, by));
+        due(at + "most" + ends + by + ")", x.most(a, b, by), y.most(a, b, by));
     }
 
-    private void compareTold(String at) {
-        for (int i = -1; i <= 8; i++) {
-            Check.due(at + "step(" + i + ")", x.step(i), y.step(i));
-        }
-        for (int what = -1; what <= 3; what++) {
-            Check.due(at + "sum(" + what + ")", x.sum(what), y.sum(what));
-            Check.due(at + "of(" + what + ")", x.of(what), y.of(what));
-        }
+    /** Some of what can be read, by turns, so that not all calls are spent on it. */
+    private void read(String at) {
         int arc = anArc();
-        for (int what = -1; what <= 5; what++) {
-            Check.due(at + "told(" + arc + ", " + what + ")", x.told(arc, what), y.told(arc, what));
+        switch (random.nextInt(9)) {
+            case 0 -> {
+                for (int i = -1; i <= 7; i++) {
+                    due(at + "step(" + i + ")", x.step(i), y.step(i));
+                }
+            }
+            case 1 -> {
+                for (int what = -1; what <= 3; what++) {
+                    due(at + "sum(" + what + ")", x.sum(what), y.sum(what));
+                }
+            }
+            case 2 -> {
+                for (int what = -1; what <= 3; what++) {
+                    due(at + "of(" + what + ")", x.of(what), y.of(what));
+                }
+            }
+            case 3 -> {
+                for (int what = -1; what <= 5; what++) {
+                    due(at + "told(" + arc + ", " + what + ")", x.told(arc, what), y.told(arc, what));
+                }
+            }
+            case 4 -> comparePairs(at);
+            default -> {
+                int i = random.nextInt(3);
+                due(at + "step(" + i + ")", x.step(i), y.step(i));
+            }
         }
     }
 
@@ -145,7 +167,7 @@ public final class CompareTest {
         int i = -1;
         do {
             for (int what = -1; what <= 2; what++) {
-                Check.due(at + "pair(" + i + ", " + what + ")", x.pair(i, what), y.pair(i, what));
+                due(at + "pair(" + i + ", " + what + ")", x.pair(i, what), y.pair(i, what));
             }
             i++;
         } while (y.pair(i - 1, 0) != Model.BAD || i == 0);

@@ -1,7 +1,6 @@
 /** Each promise worked by hand: ordinary inputs, the edges that the document names, and wrong inputs. */
 public final class PromiseTest {
-    private static final int NONE = -1, BAD = -2, FULL = -3;
-    private static final int[] FAR_OUT = {-1, Integer.MIN_VALUE, Integer.MAX_VALUE};
+    private static final int NONE = Graphs.NONE, BAD = Graphs.BAD, FULL = Graphs.FULL;
 
     public static void main(String[] args) {
         newObject();
@@ -33,67 +32,21 @@ public final class PromiseTest {
         Check.due(call, got, want);
     }
 
-    private static NextPaths withNodes(int n) {
-        NextPaths x = new NextPaths();
-        for (int i = 0; i < n; i++) {
-            x.node();
-        }
-        return x;
-    }
-
-    /** 0 to 1 to 3 (WEIGHT 4, SECOND 10), 0 to 2 to 3 (4, 9), 0 to 3 (4, 20), 0 to 1 to 2 to 3 (5, 5). */
-    private static NextPaths diamond() {
-        NextPaths x = withNodes(4);
-        x.arc(0, 1, 2, 5);
-        x.arc(1, 3, 2, 5);
-        x.arc(0, 2, 1, 9);
-        x.arc(2, 3, 3, 0);
-        x.arc(0, 3, 4, 20);
-        x.arc(1, 2, 0, 0);
-        return x;
-    }
-
-    /** A row of 8 NODES with 3 ARCS between neighbours, 2 between the last ones: 1458 PATHS from 0 to 7. */
-    private static NextPaths ladder() {
-        NextPaths x = withNodes(8);
-        int unit = 1;
-        for (int i = 0; i < 6; i++) {
-            for (int digit = 0; digit < 3; digit++) {
-                x.arc(i, i + 1, digit * unit, (2 - digit) * unit);
-            }
-            unit *= 3;
-        }
-        x.arc(6, 7, 0, unit);
-        x.arc(6, 7, unit, 0);
-        return x;
-    }
-
-    private static void isAsNew(String when, NextPaths x) {
-        for (int what = 0; what < 3; what++) {
-            due(when + ": of(" + what + ")", x.of(what), 0);
-            due(when + ": sum(" + what + ")", x.sum(what), NONE);
-        }
-        due(when + ": step(0)", x.step(0), BAD);
-        due(when + ": pair(0, 0)", x.pair(0, 0), BAD);
-        due(when + ": told(0, 0)", x.told(0, 0), BAD);
-        due(when + ": count(0, 1)", x.count(0, 1), BAD);
-    }
-
     private static void newObject() {
-        isAsNew("new", new NextPaths());
-        NextPaths first = diamond();
-        isAsNew("new beside another one", new NextPaths());
+        Graphs.isAsNew("new", new NextPaths());
+        NextPaths first = Graphs.diamond();
+        Graphs.isAsNew("new beside another one", new NextPaths());
         due("the other one", first.of(1), 6);
     }
 
     private static void clear() {
         due("clear() of a new one", new NextPaths().clear(), 0);
-        NextPaths x = diamond();
+        NextPaths x = Graphs.diamond();
         x.shut(5, true);
         x.next(0, 3, 0);
         x.pairs(0, 3);
         due("clear()", x.clear(), 6);
-        isAsNew("cleared", x);
+        Graphs.isAsNew("cleared", x);
         due("clear() again", x.clear(), 0);
         due("node() after clear()", x.node(), 0);
         due("node() after clear()", x.node(), 1);
@@ -117,11 +70,11 @@ public final class PromiseTest {
     }
 
     private static void arc() {
-        NextPaths x = withNodes(3);
+        NextPaths x = Graphs.withNodes(3);
         due("arc(0, 1, 0, 0)", x.arc(0, 1, 0, 0), 0);
         due("arc(0, 1, 1000, 1000)", x.arc(0, 1, 1000, 1000), 1);
         due("arc(2, 1, 3, 4)", x.arc(2, 1, 3, 4), 2);
-        for (int number : FAR_OUT) {
+        for (int number : Graphs.FAR_OUT) {
             due("arc, from", x.arc(number, 1, 0, 0), BAD);
             due("arc, to", x.arc(0, number, 0, 0), BAD);
             due("arc, weight", x.arc(0, 1, number, 0), BAD);
@@ -143,12 +96,12 @@ public final class PromiseTest {
     }
 
     private static void change() {
-        NextPaths x = diamond();
+        NextPaths x = Graphs.diamond();
         due("change(4, 1000, 0)", x.change(4, 1000, 0), 4);
         due("change(4, 0, 1000)", x.change(4, 0, 1000), 1000);
         due("told(4, 2)", x.told(4, 2), 0);
         due("told(4, 3)", x.told(4, 3), 1000);
-        for (int number : FAR_OUT) {
+        for (int number : Graphs.FAR_OUT) {
             due("change, arc", x.change(number, 0, 0), BAD);
             due("change, weight", x.change(0, number, 0), BAD);
             due("change, second", x.change(0, 0, number), BAD);
@@ -164,7 +117,7 @@ public final class PromiseTest {
     }
 
     private static void shut() {
-        NextPaths x = diamond();
+        NextPaths x = Graphs.diamond();
         due("shut(4, false)", x.shut(4, false), 0);
         due("shut(4, true)", x.shut(4, true), 0);
         due("shut(4, true) again", x.shut(4, true), 1);
@@ -174,44 +127,36 @@ public final class PromiseTest {
         due("shut(4, false) again", x.shut(4, false), 0);
         due("count with ARC 4", x.count(0, 3), 4);
         due("shut(6, true)", x.shut(6, true), BAD);
-        for (int number : FAR_OUT) {
+        for (int number : Graphs.FAR_OUT) {
             due("shut, arc", x.shut(number, true), BAD);
         }
         due("of(2)", x.of(2), 0);
     }
 
-    private static void isTold(String when, NextPaths x, int... arcs) {
-        due(when + ": sum(2)", x.sum(2), arcs.length);
-        for (int i = 0; i < arcs.length; i++) {
-            due(when + ": step(" + i + ")", x.step(i), arcs[i]);
-        }
-        due(when + ": step(" + arcs.length + ")", x.step(arcs.length), BAD);
-    }
-
     private static void next() {
-        NextPaths x = diamond();
+        NextPaths x = Graphs.diamond();
         due("next(0, 3, 0)", x.next(0, 3, 0), 1);
-        isTold("next(0, 3, 0)", x, 4);
+        Graphs.isTold("next(0, 3, 0)", x, 4);
         due("next(0, 3, 3)", x.next(0, 3, 3), 3);
-        isTold("next(0, 3, 3)", x, 0, 5, 3);
+        Graphs.isTold("next(0, 3, 3)", x, 0, 5, 3);
         due("next(0, 3, 4)", x.next(0, 3, 4), NONE);
         due("next(3, 0, 0)", x.next(3, 0, 0), NONE);
         due("next(0, 3, 299)", x.next(0, 3, 299), NONE);
-        isTold("after NONE", x, 0, 5, 3);
+        Graphs.isTold("after NONE", x, 0, 5, 3);
         due("next(0, 3, 300)", x.next(0, 3, 300), BAD);
         due("next(0, 0, 0)", x.next(0, 0, 0), BAD);
         due("next(0, 4, 0)", x.next(0, 4, 0), BAD);
         due("next(4, 0, 0)", x.next(4, 0, 0), BAD);
-        for (int number : FAR_OUT) {
+        for (int number : Graphs.FAR_OUT) {
             due("next, a", x.next(number, 3, 0), BAD);
             due("next, b", x.next(0, number, 0), BAD);
             due("next, k", x.next(0, 3, number), BAD);
         }
-        isTold("after BAD", x, 0, 5, 3);
+        Graphs.isTold("after BAD", x, 0, 5, 3);
     }
 
     private static void nextInTheOrder() {
-        NextPaths x = withNodes(4);
+        NextPaths x = Graphs.withNodes(4);
         x.arc(2, 3, 1, 0);
         x.arc(1, 3, 1, 0);
         x.arc(0, 1, 1, 0);
@@ -223,31 +168,33 @@ public final class PromiseTest {
         int[][] order = {{4}, {6}, {2, 1}, {3, 0}, {7, 1}, {2, 5, 0}, {7, 5, 0}};
         for (int k = 0; k < order.length; k++) {
             due("next of as much WEIGHT", x.next(0, 3, k), order[k].length);
-            isTold("PATH " + k + " of as much WEIGHT", x, order[k]);
+            Graphs.isTold("PATH " + k + " of as much WEIGHT", x, order[k]);
         }
         due("next beyond them", x.next(0, 3, order.length), NONE);
         x.change(3, 0, 1000);
         due("less WEIGHT goes before fewer ARCS", x.next(0, 3, 0), 2);
-        isTold("less WEIGHT goes before fewer ARCS", x, 3, 0);
+        Graphs.isTold("less WEIGHT goes before fewer ARCS", x, 3, 0);
     }
 
     private static void nextOfMany() {
-        NextPaths x = ladder();
+        NextPaths x = Graphs.ladder();
         for (int k = 0; k < 300; k++) {
+            // An object is promised for 512 calls alone.
+            x = k % 100 == 0 ? Graphs.ladder() : x;
             due("next(0, 7, " + k + ")", x.next(0, 7, k), 7);
             due("its WEIGHT", x.sum(0), k);
             due("its SECOND", x.sum(1), 1457 - k);
         }
-        isTold("299 is 102002 in threes, the last digit first", x, 2, 3, 6, 11, 12, 16, 18);
+        Graphs.isTold("299 is 102002 in threes, the last digit first", x, 2, 3, 6, 11, 12, 16, 18);
         due("next(0, 7, 300)", x.next(0, 7, 300), BAD);
     }
 
     private static void count() {
-        due("count(0, 3)", diamond().count(0, 3), 4);
-        due("count(3, 0)", diamond().count(3, 0), 0);
-        due("count(1, 3)", diamond().count(1, 3), 2);
-        due("count of many", ladder().count(0, 7), 1458);
-        NextPaths x = withNodes(5);
+        due("count(0, 3)", Graphs.diamond().count(0, 3), 4);
+        due("count(3, 0)", Graphs.diamond().count(3, 0), 0);
+        due("count(1, 3)", Graphs.diamond().count(1, 3), 2);
+        due("count of many", Graphs.ladder().count(0, 7), 1458);
+        NextPaths x = Graphs.withNodes(5);
         for (int i = 0; i < 20; i++) {
             int to = i % 4;
             x.arc(i / 4, to >= i / 4 ? to + 1 : to, 1, 1);
@@ -255,18 +202,18 @@ public final class PromiseTest {
         due("count where each two NODES have an ARC", x.count(4, 0), 1 + 3 + 6 + 6);
         x.next(4, 0, 0);
         x.count(0, 4);
-        isTold("count tells none", x, 16);
+        Graphs.isTold("count tells none", x, 16);
         due("count(5, 0)", x.count(5, 0), BAD);
         due("count(0, 5)", x.count(0, 5), BAD);
         due("count(2, 2)", x.count(2, 2), BAD);
-        for (int number : FAR_OUT) {
+        for (int number : Graphs.FAR_OUT) {
             due("count, a", x.count(number, 0), BAD);
             due("count, b", x.count(0, number), BAD);
         }
     }
 
     private static void apart() {
-        NextPaths x = diamond();
+        NextPaths x = Graphs.diamond();
         due("apart(0, 3, 1, 0)", x.apart(0, 3, 1, 0), 4);
         due("apart(0, 3, 2, 0)", x.apart(0, 3, 2, 0), 8);
         due("apart(0, 3, 3, 1)", x.apart(0, 3, 3, 1), 12);
@@ -278,14 +225,14 @@ public final class PromiseTest {
         due("apart(0, 3, 1, 2)", x.apart(0, 3, 1, 2), BAD);
         due("apart(0, 0, 1, 0)", x.apart(0, 0, 1, 0), BAD);
         due("apart(0, 4, 1, 0)", x.apart(0, 4, 1, 0), BAD);
-        for (int number : FAR_OUT) {
+        for (int number : Graphs.FAR_OUT) {
             due("apart, a", x.apart(number, 3, 1, 0), BAD);
             due("apart, b", x.apart(0, number, 1, 0), BAD);
             due("apart, n", x.apart(0, 3, number, 0), BAD);
             due("apart, by", x.apart(0, 3, 1, number), BAD);
         }
         due("apart tells none", x.sum(0), NONE);
-        NextPaths y = withNodes(2);
+        NextPaths y = Graphs.withNodes(2);
         for (int i = 0; i < 20; i++) {
             y.arc(0, 1, 1000 - i, 0);
         }
@@ -294,7 +241,7 @@ public final class PromiseTest {
 
     /** The first PATH, 0 1 2 3 of WEIGHT 3, is none of the two that are least together. */
     private static void apartTakesAnotherWay() {
-        NextPaths x = withNodes(5);
+        NextPaths x = Graphs.withNodes(5);
         x.arc(0, 1, 1, 0);
         x.arc(1, 2, 1, 0);
         x.arc(2, 3, 1, 0);
@@ -313,11 +260,11 @@ public final class PromiseTest {
     }
 
     private static void most() {
-        NextPaths x = diamond();
+        NextPaths x = Graphs.diamond();
         due("most(0, 3, 0)", x.most(0, 3, 0), 3);
         due("most(0, 3, 1)", x.most(0, 3, 1), 3);
         due("most(3, 0, 0)", x.most(3, 0, 0), 0);
-        NextPaths y = withNodes(3);
+        NextPaths y = Graphs.withNodes(3);
         for (int i = 0; i < 10; i++) {
             y.arc(0, 1, 1, 1);
             y.arc(1, 2, 1, 1);
@@ -325,7 +272,7 @@ public final class PromiseTest {
         due("most by ARCS through one NODE", y.most(0, 2, 0), 10);
         due("most by NODES through one NODE", y.most(0, 2, 1), 1);
         due("most by NODES beside each other", y.most(0, 1, 1), 10);
-        NextPaths z = withNodes(2);
+        NextPaths z = Graphs.withNodes(2);
         for (int i = 0; i < 20; i++) {
             z.arc(1, 0, 0, 0);
         }
@@ -334,7 +281,7 @@ public final class PromiseTest {
         due("most(0, 3, 2)", x.most(0, 3, 2), BAD);
         due("most(3, 3, 0)", x.most(3, 3, 0), BAD);
         due("most(0, 4, 0)", x.most(0, 4, 0), BAD);
-        for (int number : FAR_OUT) {
+        for (int number : Graphs.FAR_OUT) {
             due("most, a", x.most(number, 3, 0), BAD);
             due("most, b", x.most(0, number, 0), BAD);
             due("most, by", x.most(0, 3, number), BAD);
@@ -343,31 +290,31 @@ public final class PromiseTest {
     }
 
     private static void within() {
-        NextPaths x = diamond();
+        NextPaths x = Graphs.diamond();
         due("within(0, 3, 4)", x.within(0, 3, 4), NONE);
         due("sum(0) after NONE", x.sum(0), NONE);
         due("within(0, 3, 5)", x.within(0, 3, 5), 3);
-        isTold("within(0, 3, 5)", x, 0, 5, 3);
+        Graphs.isTold("within(0, 3, 5)", x, 0, 5, 3);
         due("within(0, 3, 9)", x.within(0, 3, 9), 2);
-        isTold("within(0, 3, 9)", x, 2, 3);
+        Graphs.isTold("within(0, 3, 9)", x, 2, 3);
         due("within(0, 3, 19)", x.within(0, 3, 19), 2);
-        isTold("within(0, 3, 19)", x, 0, 1);
+        Graphs.isTold("within(0, 3, 19)", x, 0, 1);
         due("within(0, 3, 7000)", x.within(0, 3, 7000), 1);
-        isTold("within(0, 3, 7000)", x, 4);
+        Graphs.isTold("within(0, 3, 7000)", x, 4);
         due("within(0, 3, 0)", x.within(0, 3, 0), NONE);
         due("within(3, 0, 7000)", x.within(3, 0, 7000), NONE);
         due("within(0, 3, 7001)", x.within(0, 3, 7001), BAD);
         due("within(3, 3, 0)", x.within(3, 3, 0), BAD);
         due("within(0, 4, 0)", x.within(0, 4, 0), BAD);
-        for (int number : FAR_OUT) {
+        for (int number : Graphs.FAR_OUT) {
             due("within, a", x.within(number, 3, 0), BAD);
             due("within, b", x.within(0, number, 0), BAD);
             due("within, limit", x.within(0, 3, number), BAD);
         }
-        isTold("after NONE and BAD", x, 4);
+        Graphs.isTold("after NONE and BAD", x, 4);
         due("within(1, 2, 0)", x.within(1, 2, 0), 1);
-        isTold("within(1, 2, 0)", x, 5);
-        NextPaths y = withNodes(8);
+        Graphs.isTold("within(1, 2, 0)", x, 5);
+        NextPaths y = Graphs.withNodes(8);
         for (int i = 0; i < 7; i++) {
             y.arc(i, i + 1, 1000, 1000);
         }
@@ -377,44 +324,35 @@ public final class PromiseTest {
         due("sum(1) of the heaviest PATH", y.sum(1), 7000);
     }
 
-    private static void arePairs(String when, NextPaths x, int... numbers) {
-        for (int i = 0; i < numbers.length / 2; i++) {
-            due(when + ": pair(" + i + ", 0)", x.pair(i, 0), numbers[2 * i]);
-            due(when + ": pair(" + i + ", 1)", x.pair(i, 1), numbers[2 * i + 1]);
-        }
-        due(when + ": pair beyond, WEIGHT", x.pair(numbers.length / 2, 0), BAD);
-        due(when + ": pair beyond, SECOND", x.pair(numbers.length / 2, 1), BAD);
-    }
-
     private static void pairs() {
-        NextPaths x = diamond();
+        NextPaths x = Graphs.diamond();
         due("pairs(0, 3)", x.pairs(0, 3), 2);
-        arePairs("pairs(0, 3)", x, 4, 9, 5, 5);
-        for (int number : FAR_OUT) {
+        Graphs.arePairs("pairs(0, 3)", x, 4, 9, 5, 5);
+        for (int number : Graphs.FAR_OUT) {
             due("pairs, a", x.pairs(number, 3), BAD);
             due("pairs, b", x.pairs(0, number), BAD);
         }
         due("pairs(4, 0)", x.pairs(4, 0), BAD);
         due("pairs(0, 4)", x.pairs(0, 4), BAD);
         due("pairs(1, 1)", x.pairs(1, 1), BAD);
-        arePairs("after BAD", x, 4, 9, 5, 5);
+        Graphs.arePairs("after BAD", x, 4, 9, 5, 5);
         x.change(2, 1000, 0);
         x.shut(0, true);
-        arePairs("as they were found", x, 4, 9, 5, 5);
+        Graphs.arePairs("as they were found", x, 4, 9, 5, 5);
         due("pairs tells none", x.sum(0), NONE);
         due("pairs(3, 0)", x.pairs(3, 0), 0);
-        arePairs("none found", x);
-        NextPaths y = withNodes(2);
+        Graphs.arePairs("none found", x);
+        NextPaths y = Graphs.withNodes(2);
         int[] numbers = {5, 5, 5, 5, 4, 6, 6, 5, 5, 4, 4, 6, 7, 3, 9, 0, 9, 1, 3, 1000, 8, 3};
         for (int i = 0; i < numbers.length; i += 2) {
             y.arc(0, 1, numbers[i], numbers[i + 1]);
         }
         due("pairs of one WEIGHT or one SECOND", y.pairs(0, 1), 5);
-        arePairs("each once, by rising WEIGHT", y, 3, 1000, 4, 6, 5, 4, 7, 3, 9, 0);
+        Graphs.arePairs("each once, by rising WEIGHT", y, 3, 1000, 4, 6, 5, 4, 7, 3, 9, 0);
     }
 
     private static void pairsOfMany() {
-        NextPaths x = ladder();
+        NextPaths x = Graphs.ladder();
         due("pairs of many", x.pairs(0, 7), 1458);
         for (int i = 0; i < 1458; i += 31) {
             due("pair(" + i + ", 0) of many", x.pair(i, 0), i);
@@ -425,44 +363,44 @@ public final class PromiseTest {
     }
 
     private static void pair() {
-        NextPaths x = diamond();
+        NextPaths x = Graphs.diamond();
         due("pair(0, 0) before pairs()", x.pair(0, 0), BAD);
         x.pairs(0, 3);
         due("pair(0, 2)", x.pair(0, 2), BAD);
         due("pair(2, 0)", x.pair(2, 0), BAD);
-        for (int number : FAR_OUT) {
+        for (int number : Graphs.FAR_OUT) {
             due("pair, i", x.pair(number, 0), BAD);
             due("pair, what", x.pair(0, number), BAD);
         }
         x.pairs(1, 2);
-        arePairs("those found last", x, 0, 0);
+        Graphs.arePairs("those found last", x, 0, 0);
         x.clear();
-        arePairs("after clear()", x);
+        Graphs.arePairs("after clear()", x);
     }
 
     private static void step() {
-        NextPaths x = diamond();
+        NextPaths x = Graphs.diamond();
         due("step(0) before one is TOLD", x.step(0), BAD);
         x.next(0, 3, 3);
-        isTold("a PATH of 3 ARCS", x, 0, 5, 3);
+        Graphs.isTold("a PATH of 3 ARCS", x, 0, 5, 3);
         x.next(0, 3, 0);
-        isTold("then one of 1 ARC", x, 4);
+        Graphs.isTold("then one of 1 ARC", x, 4);
         due("step(1)", x.step(1), BAD);
         x.shut(4, true);
         x.count(0, 3);
         x.pairs(0, 3);
-        isTold("still TOLD when SHUT", x, 4);
-        for (int number : FAR_OUT) {
+        Graphs.isTold("still TOLD when SHUT", x, 4);
+        for (int number : Graphs.FAR_OUT) {
             due("step, i", x.step(number), BAD);
         }
-        NextPaths y = ladder();
+        NextPaths y = Graphs.ladder();
         y.next(0, 7, 0);
         due("step(6) of 7", y.step(6), 18);
         due("step(7) of 7", y.step(7), BAD);
     }
 
     private static void sum() {
-        NextPaths x = diamond();
+        NextPaths x = Graphs.diamond();
         due("sum(0) before one is TOLD", x.sum(0), NONE);
         due("sum(3) before one is TOLD", x.sum(3), BAD);
         due("sum(-1) before one is TOLD", x.sum(-1), BAD);
@@ -472,7 +410,7 @@ public final class PromiseTest {
         due("sum(1) as it was then", x.sum(1), 5);
         due("sum(2)", x.sum(2), 3);
         due("sum(3)", x.sum(3), BAD);
-        for (int number : FAR_OUT) {
+        for (int number : Graphs.FAR_OUT) {
             due("sum, what", x.sum(number), BAD);
         }
         x.within(0, 3, 7000);
@@ -482,7 +420,7 @@ public final class PromiseTest {
     }
 
     private static void told() {
-        NextPaths x = diamond();
+        NextPaths x = Graphs.diamond();
         x.shut(2, true);
         int[] numbers = {0, 2, 1, 9, 1};
         for (int what = 0; what < 5; what++) {
@@ -491,14 +429,14 @@ public final class PromiseTest {
         due("told(3, 4)", x.told(3, 4), 0);
         due("told(2, 5)", x.told(2, 5), BAD);
         due("told(6, 0)", x.told(6, 0), BAD);
-        for (int number : FAR_OUT) {
+        for (int number : Graphs.FAR_OUT) {
             due("told, arc", x.told(number, 0), BAD);
             due("told, what", x.told(0, number), BAD);
         }
     }
 
     private static void of() {
-        NextPaths x = diamond();
+        NextPaths x = Graphs.diamond();
         x.shut(0, true);
         x.shut(5, true);
         x.shut(5, true);
@@ -508,13 +446,13 @@ public final class PromiseTest {
         x.shut(0, false);
         due("of(2) with one less", x.of(2), 1);
         due("of(3)", x.of(3), BAD);
-        for (int number : FAR_OUT) {
+        for (int number : Graphs.FAR_OUT) {
             due("of, what", x.of(number), BAD);
         }
     }
 
     private static void refusalsChangeNothing() {
-        NextPaths x = diamond();
+        NextPaths x = Graphs.diamond();
         x.next(0, 3, 1);
         x.pairs(0, 3);
         x.arc(0, 0, 1, 1);
@@ -531,7 +469,7 @@ public final class PromiseTest {
         due("of(2)", x.of(2), 0);
         due("told(0, 2)", x.told(0, 2), 2);
         due("told(0, 3)", x.told(0, 3), 5);
-        isTold("after refusals", x, 0, 1);
-        arePairs("after refusals", x, 4, 9, 5, 5);
+        Graphs.isTold("after refusals", x, 0, 1);
+        Graphs.arePairs("after refusals", x, 4, 9, 5, 5);
     }
 }
