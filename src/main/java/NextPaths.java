@@ -358,22 +358,15 @@ public final class NextPaths {
 
         private void sinkFromTop(long path) {
             int at = 0;
-            while (at < size) {
-                int child = lesserChild(at);
-                if (child >= size || paths[child] >= path) {
+            for (int left = 1; left < size; left = 2 * at + 1) {
+                int lesser = left + 1 < size && paths[left + 1] < paths[left] ? left + 1 : left;
+                if (paths[lesser] >= path) {
                     break;
                 }
-                paths[at] = paths[child];
-                at = child;
+                paths[at] = paths[lesser];
+                at = lesser;
             }
             paths[at] = path;
-        }
-
-        /** At or beyond the size, if there is none. */
-        private int lesserChild(int at) {
-            int left = 2 * at + 1;
-            int right = left + 1;
-            return right < size && paths[right] < paths[left] ? right : left;
         }
     }
 

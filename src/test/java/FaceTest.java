@@ -7,6 +7,7 @@ import java.nio.file.Files;
 import java.nio.file.Path;
 import java.util.Set;
 import java.util.TreeSet;
+import java.util.regex.Matcher;
 import java.util.regex.Pattern;
 
 /** The public face is the document's and no more, and the source keeps off words that LANGUAGE.md rules out. */
@@ -26,6 +27,7 @@ public final class FaceTest {
         checkFields();
         checkNestedNames();
         checkSource();
+        checkDocument();
         Check.end();
     }
 
@@ -90,9 +92,13 @@ public final class FaceTest {
         }
     }
 
-    private static void checkSource() throws IOException {
+    private static String source() throws IOException {
         String code = Files.readString(Path.of("src/main/java/NextPaths.java"));
-        code = code.replaceAll("(?s)/\\*.*?\\*/", "").replaceAll("//[^\\n]*", "");
+        return code.replaceAll("(?s)/\\*.*?\\*/", "").replaceAll("//[^\\n]*", "");
+    }
+
+    private static void checkSource() throws IOException {
+        String code = source();
         for (String word : RULED_OUT) {
             String edge = Character.isLetter(word.charAt(0)) ? "\\b" : "";
             isTrue("the source is without " + word,
@@ -100,5 +106,35 @@ public final class FaceTest {
         }
         isTrue("the source imports java.util.Arrays at most",
             !Pattern.compile("import (?!java\\.util\\.Arrays;)").matcher(code).find());
+    }
+
+    private static void checkDocument() throws IOException {
+        String document = Files.readString(Path.of("../shared/DOC.md"));
+        checkFaceLines(document, source());
+        checkPromiseHeads(document, source());
+    }
+
+    /** The names of the parameters too are those of the document. */
+    private static void checkFaceLines(String document, String code) {
+        String[] parts = document.split("```");
+        int lines = 0;
+        for (String line : parts.length == 3 ? parts[1].split("\n") : new String[0]) {
+            String due = line.strip().replaceAll("\\);$", ") {");
+            if (due.startsWith("public")) {
+                lines++;
+                isTrue("in the source: " + due, code.contains(due));
+            }
+        }
+        Check.due("lines of the face: class, constants, constructor, methods", lines, 3 + METHODS.size());
+    }
+
+    private static void checkPromiseHeads(String document, String code) {
+        Matcher head = Pattern.compile("(?m)^`([^`]*)`: ").matcher(document);
+        int heads = 0;
+        while (head.find()) {
+            heads++;
+            isTrue("in the source: " + head.group(1), code.contains("public " + head.group(1) + " {"));
+        }
+        Check.due("promises that begin with a constructor or method", heads, 1 + METHODS.size());
     }
 }

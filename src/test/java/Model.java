@@ -1,6 +1,8 @@
 import java.util.ArrayList;
 import java.util.Comparator;
+import java.util.HashMap;
 import java.util.List;
+import java.util.Map;
 
 /** The document's words done as plainly as can be, to compare NextPaths with; nothing here is fast. */
 final class Model {
@@ -10,6 +12,10 @@ final class Model {
     }
 
     private record Pair(int weight, int second) {
+    }
+
+    /** What a PATH takes up beside its first ARC: one bit for each ARC or NODE. */
+    private record Claim(long bits, int firstArc, int weight) {
     }
 
     private int nodes = 0;
@@ -76,7 +82,7 @@ final class Model {
         if (bad(a, b) || n < 1 || n > 5 || by < 0 || by > 1) {
             return BAD;
         }
-        int least = leastOf(ordered(a, b), 0, n, 0, by == 1, 1 << a | 1 << b);
+        int least = leastOf(claims(a, b, by == 1), -1, n, 0, new HashMap<>());
         return least == Integer.MAX_VALUE ? NONE : least;
     }
 
@@ -84,9 +90,10 @@ final class Model {
         if (bad(a, b) || by < 0 || by > 1) {
             return BAD;
         }
-        List<Path> all = ordered(a, b);
+        Claim[] all = claims(a, b, by == 1);
+        Map<Long, Integer> known = new HashMap<>();
         int n = 0;
-        while (leastOf(all, 0, n + 1, 0, by == 1, 1 << a | 1 << b) != Integer.MAX_VALUE) {
+        while (leastOf(all, -1, n + 1, 0, known) != Integer.MAX_VALUE) {
             n++;
         }
         return n;
@@ -214,34 +221,42 @@ final class Model {
         }
     }
 
-    /** The least WEIGHT of n PATHS APART that begin with ARC first or later ones and use nothing in taken. */
-    private int leastOf(List<Path> all, int first, int n, long taken, boolean byNodes, int ends) {
+    private Claim[] claims(int a, int b, boolean byNodes) {
+        List<Claim> all = new ArrayList<>();
+        for (Path path : ordered(a, b)) {
+            int firstArc = path.arcs().get(0);
+            long bits = 0;
+            for (int arc : path.arcs()) {
+                int to = arcs.get(arc)[1];
+                bits |= (arc == firstArc ? 0 : 1L << arc) | (byNodes && to != b ? 1L << 20 + to : 0);
+            }
+            all.add(new Claim(bits, firstArc, path.weight()));
+        }
+        return all.toArray(new Claim[0]);
+    }
+
+    /**
+     * The least WEIGHT of n PATHS APART that begin with ARCS after one and use nothing in taken. A PATH has one ARC
+     * from a alone, so PATHS tried by rising first ARC share none such, and each set of them is tried once. What has
+     * been answered before is known.
+     */
+    private static int leastOf(Claim[] all, int after, int n, long taken, Map<Long, Integer> known) {
         if (n == 0) {
             return 0;
         }
+        long question = taken | (long) (after + 1) << 30 | (long) n << 40;
+        if (known.containsKey(question)) {
+            return known.get(question);
+        }
         int least = Integer.MAX_VALUE;
-        for (Path path : all) {
-            long mask = maskOf(path, byNodes, ends);
-            if (path.arcs().get(0) < first || (mask & taken) != 0) {
-                continue;
-            }
-            int rest = leastOf(all, path.arcs().get(0) + 1, n - 1, taken | mask, byNodes, ends);
-            if (rest != Integer.MAX_VALUE) {
-                least = Math.min(least, rest + path.weight());
+        for (Claim claim : all) {
+            if (claim.firstArc() > after && (claim.bits() & taken) == 0) {
+                int rest = leastOf(all, claim.firstArc(), n - 1, taken | claim.bits(), known);
+                least = rest == Integer.MAX_VALUE ? least : Math.min(least, rest + claim.weight());
             }
         }
+        known.put(question, least);
         return least;
-    }
-
-    private long maskOf(Path path, boolean byNodes, int ends) {
-        long mask = 0;
-        for (int arc : path.arcs()) {
-            mask |= 1L << arc;
-            if (byNodes) {
-                mask |= (long) (1 << arcs.get(arc)[1] & ~ends) << 20;
-            }
-        }
-        return mask;
     }
 
     private static boolean isBest(Pair pair, List<Path> all) {
